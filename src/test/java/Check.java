@@ -1,0 +1,61 @@
+/** Counts answers that are as due and those that are not. */
+final class Check {
+    /** A call whose answer, if it has one, is given as a long. */
+    interface Call {
+        long answer();
+    }
+
+    private int right = 0;
+    private int wrong = 0;
+
+    void equal(String what, long want, long got) {
+        if (want == got) {
+            right++;
+        } else {
+            wrong++;
+            System.out.println(what + ": answered " + got + ", due is " + want);
+        }
+    }
+
+    void equal(String what, float want, float got) {
+        equal(what + " (as bits)", Float.floatToIntBits(want), Float.floatToIntBits(got));
+    }
+
+    /** Exactly the class counts: ArrayIndexOutOfBoundsException is not IndexOutOfBoundsException. */
+    void throwing(String what, Class<? extends RuntimeException> want, Call call) {
+        String got = nameOfThrown(call);
+        if (want.getName().equals(got)) {
+            right++;
+        } else {
+            wrong++;
+            System.out.println(what + ": threw " + got + ", due is " + want.getName());
+        }
+    }
+
+    static String nameOfThrown(Call call) {
+        try {
+            call.answer();
+            return "nothing";
+        } catch (RuntimeException thrown) {
+            return thrown.getClass().getName();
+        }
+    }
+
+    void noIndex(String what, Call call) {
+        throwing(what, IndexOutOfBoundsException.class, call);
+    }
+
+    void noArgument(String what, Call call) {
+        throwing(what, IllegalArgumentException.class, call);
+    }
+
+    void noState(String what, Call call) {
+        throwing(what, IllegalStateException.class, call);
+    }
+
+    /** Ends the program, with exit code 1 if an answer was not as due. */
+    void end(String name) {
+        System.out.println(name + ": " + right + " answers as due, " + wrong + " not");
+        System.exit(wrong == 0 && right > 0 ? 0 : 1);
+    }
+}
