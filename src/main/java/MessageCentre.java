@@ -516,7 +516,8 @@ public final class MessageCentre {
             submittedAt = tick;
             dueAt = tick;
             failures = new int[3];
-            log = new Log(validity);
+            // It is submitted, attempted at most once in each tick of its validity but the last, and ends.
+            log = new Log(validity + 1);
         }
 
         boolean goesBetween(Account account, Recipient recipient) {
@@ -577,16 +578,11 @@ public final class MessageCentre {
         static final int ENDED = 10;
 
         private final int[] events;
-        private int size;
+        private int size = 0;
 
-        /**
-         * A message has at most one attempt in each tick of its validity but the last one, in which
-         * it expires; with its submission and its end that is one event more than it has ticks.
-         */
-        Log(int validity) {
-            events = new int[Math.max(0, validity) + 1];
-            events[0] = SUBMITTED;
-            size = 1;
+        Log(int mostEvents) {
+            events = new int[mostEvents > 0 ? mostEvents : 0];
+            add(SUBMITTED);
         }
 
         void add(int event) {

@@ -70,8 +70,9 @@ public final class AnyArgumentRuns {
             return false;
         } catch (InvocationTargetException thrown) {
             List<Class<?>> declared = List.of(method.getExceptionTypes());
-            check.equal(method + Arrays.toString(arguments) + " threw " + thrown.getCause(), 1,
-                    declared.contains(thrown.getCause().getClass()) ? 1 : 0);
+            Throwable cause = thrown.getCause();
+            boolean asDeclared = declared.contains(cause.getClass()) && Check.isThrownByTheProgram(cause);
+            check.equal(method + Arrays.toString(arguments) + " threw " + cause, 1, asDeclared ? 1 : 0);
             return true;
         }
     }

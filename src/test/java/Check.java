@@ -32,13 +32,19 @@ final class Check {
         }
     }
 
-    static String nameOfThrown(Call call) {
+    private static String nameOfThrown(Call call) {
         try {
             call.answer();
             return "nothing";
         } catch (RuntimeException thrown) {
-            return thrown.getClass().getName();
+            return isThrownByTheProgram(thrown) ? thrown.getClass().getName() : "by itself " + thrown;
         }
+    }
+
+    /** Whether it was a throw of the program's own, not one of a library's or of the machine's. */
+    static boolean isThrownByTheProgram(Throwable thrown) {
+        StackTraceElement[] calls = thrown.getStackTrace();
+        return calls.length > 0 && calls[0].getClassName().startsWith("MessageCentre");
     }
 
     void noIndex(String what, Call call) {

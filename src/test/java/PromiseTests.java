@@ -464,6 +464,19 @@ public final class PromiseTests {
         check.equal("9 many attempts", 101, x.attempts(0));
         x.pass(2);
         check.equal("9 delivered in the end", MessageCentre.DELIVERED, x.stateByLog(0));
+        attemptInEveryTick();
+    }
+
+    private static void attemptInEveryTick() {
+        MessageCentre x = new MessageCentre();
+        x.submit(0, 0, 0, 7);
+        for (int i = 0; i < 7; i++) {
+            x.setMode(0, MessageCentre.ABSENT);
+            x.pass(1);
+            x.setMode(0, MessageCentre.PRESENT);
+        }
+        check.equal("9 as many attempts as there can be", 6, x.attempts(0));
+        check.equal("9 expired", MessageCentre.EXPIRED, x.stateByLog(0));
     }
 
     private static void promise10Parts() {
@@ -622,6 +635,26 @@ public final class PromiseTests {
         x.setMode(0, MessageCentre.ABSENT);
         x.pass(2);
         check.equal("14 those for ABSENT as well", 37, x.due(0));
+        x.setMode(0, MessageCentre.BUSY);
+        x.pass(5);
+        check.equal("14 the second one again", 41, x.due(0));
+        failuresForAbsentAndFull();
+    }
+
+    private static void failuresForAbsentAndFull() {
+        MessageCentre x = new MessageCentre();
+        x.setRoom(0, 0);
+        x.submit(0, 0, 0, 500);
+        x.pass(1);
+        check.equal("14 the first for FULL", 11, x.due(0));
+        x.setMode(0, MessageCentre.ABSENT);
+        x.pass(10);
+        check.equal("14 the first for ABSENT", 16, x.due(0));
+        x.pass(5);
+        check.equal("14 the second for ABSENT", 26, x.due(0));
+        x.setMode(0, MessageCentre.PRESENT);
+        x.pass(1);
+        check.equal("14 the second for FULL", 37, x.due(0));
     }
 
     private static void promise15SetModeWakes() {
@@ -871,6 +904,7 @@ public final class PromiseTests {
         check.equal("22 all of them", 4, x.pass(4));
         check.equal("22 nothing left", 0, x.pass(100));
         onlyWhatIsDue();
+        refusedAndFailedPartsDoNotCount();
     }
 
     private static void onlyWhatIsDue() {
@@ -884,6 +918,20 @@ public final class PromiseTests {
         check.equal("22 what is not due lets others go first", MessageCentre.DELIVERED, x.state(1));
         check.equal("22 it is due at tick 3", MessageCentre.WAITING, x.state(0));
         check.equal("22 at tick 3", 1, x.pass(1));
+    }
+
+    private static void refusedAndFailedPartsDoNotCount() {
+        MessageCentre x = new MessageCentre();
+        x.setMode(0, MessageCentre.BARRED);
+        x.submit(0, 0, 0, 500);
+        x.submit(0, 0, 0, 500);
+        check.equal("22 refused", 0, x.pass(1));
+        check.equal("22 one attempt in a tick", MessageCentre.WAITING, x.state(1));
+        x.setMode(0, MessageCentre.BUSY);
+        check.equal("22 failed", 0, x.pass(1));
+        x.setMode(0, MessageCentre.PRESENT);
+        check.equal("22 in a room", 1, x.pass(2));
+        check.equal("22 only that part", 1, x.inRoom(0));
     }
 
     private static void promise22PassExpiresFirst() {
