@@ -313,10 +313,10 @@ public final class MessageCentre {
     // ---- submitting
 
     private Message knownAgain(Account sender, Recipient target) {
-        Message known = null;
         if (sender.reference == NONE) {
-            return known;
+            return null;
         }
+        Message known = null;
         for (int i = 0; i < messages.size(); i++) {
             Message message = messages.get(i);
             if (message.goesBetween(sender, target) && message.reference == sender.reference

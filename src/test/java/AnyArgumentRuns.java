@@ -49,12 +49,12 @@ public final class AnyArgumentRuns {
 
     private void calls() throws ReflectiveOperationException {
         MessageCentre x = new MessageCentre();
-        String before = told(x);
+        String before = Told.of(x);
         for (int i = 0; i < CALLS; i++) {
             Method method = methods[any(methods.length)];
             Object[] arguments = Arrays.stream(method.getParameterTypes()).map(this::anyArgument).toArray();
             boolean threw = throwsAsDeclared(x, method, arguments);
-            String after = told(x);
+            String after = Told.of(x);
             if (threw) {
                 check.equal(method + Arrays.toString(arguments) + " throws and changes nothing", 1,
                         before.equals(after) ? 1 : 0);
@@ -75,26 +75,5 @@ public final class AnyArgumentRuns {
             check.equal(method + Arrays.toString(arguments) + " threw " + cause, 1, asDeclared ? 1 : 0);
             return true;
         }
-    }
-
-    /** All that can be asked without a change. */
-    private static String told(MessageCentre x) {
-        StringBuilder text = new StringBuilder();
-        text.append(x.now()).append(' ').append(x.share());
-        for (int account = 0; account < 4; account++) {
-            text.append(' ').append(x.receipts(account));
-        }
-        for (int recipient = 0; recipient < 6; recipient++) {
-            text.append(' ').append(x.inRoom(recipient)).append(' ').append(x.marks(recipient));
-            text.append(' ').append(x.waiting(recipient)).append(' ').append(x.next(recipient));
-        }
-        for (int message = 0; message < x.messages(); message++) {
-            text.append('\n').append(x.state(message)).append(' ').append(x.stateByLog(message));
-            text.append(' ').append(x.delivered(message)).append(' ').append(x.attempts(message));
-            if (x.state(message) == MessageCentre.WAITING) {
-                text.append(' ').append(x.due(message));
-            }
-        }
-        return text.toString();
     }
 }

@@ -1,3 +1,5 @@
+import java.util.Arrays;
+
 /** Counts answers that are as due and those that are not. */
 final class Check {
     /** A call whose answer, if it has one, is given as a long. */
@@ -7,18 +9,44 @@ final class Check {
 
     private int right = 0;
     private int wrong = 0;
+    private String sentence = "";
+
+    /** Names the sentence of the document that the checks from here on are about. */
+    void sentence(String words) {
+        sentence = "\"" + words + "\" ";
+    }
 
     void equal(String what, long want, long got) {
         if (want == got) {
             right++;
         } else {
-            wrong++;
-            System.out.println(what + ": answered " + got + ", due is " + want);
+            tellWrong(what + ": answered " + got + ", due is " + want);
         }
+    }
+
+    private void tellWrong(String told) {
+        wrong++;
+        System.out.println(sentence + told);
     }
 
     void equal(String what, float want, float got) {
         equal(what + " (as bits)", Float.floatToIntBits(want), Float.floatToIntBits(got));
+    }
+
+    void equal(String what, int[] want, int[] got) {
+        if (Arrays.equals(want, got)) {
+            right++;
+        } else {
+            tellWrong(what + ": answered " + Arrays.toString(got) + ", due is " + Arrays.toString(want));
+        }
+    }
+
+    void equal(String what, String want, String got) {
+        if (want.equals(got)) {
+            right++;
+        } else {
+            tellWrong(what + ": answered " + got + ", due is " + want);
+        }
     }
 
     /** Exactly the class counts: ArrayIndexOutOfBoundsException is not IndexOutOfBoundsException. */
@@ -27,8 +55,7 @@ final class Check {
         if (want.getName().equals(got)) {
             right++;
         } else {
-            wrong++;
-            System.out.println(what + ": threw " + got + ", due is " + want.getName());
+            tellWrong(what + ": threw " + got + ", due is " + want.getName());
         }
     }
 

@@ -16,6 +16,16 @@ final class PlainCentre {
         final List<Integer> letterSizes = new ArrayList<>();
         boolean wide = false;
 
+        static Text of(int letters, int every, boolean wide) {
+            Text text = new Text();
+            text.wide = wide;
+            for (int letter = 1; letter <= letters; letter++) {
+                boolean two = !wide && every != 0 && letter % every == 0;
+                text.letterSizes.add(two ? 2 : 1);
+            }
+            return text;
+        }
+
         List<Integer> parts() {
             int places = letterSizes.stream().mapToInt(size -> size).sum();
             if (places <= (wide ? 70 : 160)) {
@@ -84,14 +94,8 @@ final class PlainCentre {
     }
 
     int draft(int account, int letters, int every, boolean wide) {
-        Text text = new Text();
-        text.wide = wide;
-        for (int letter = 1; letter <= letters; letter++) {
-            boolean two = !wide && every != 0 && letter % every == 0;
-            text.letterSizes.add(two ? 2 : 1);
-        }
-        drafts[account] = text;
-        return text.parts().size();
+        drafts[account] = Text.of(letters, every, wide);
+        return drafts[account].parts().size();
     }
 
     void setOptions(int account, int kind, int reference, boolean receipt) {

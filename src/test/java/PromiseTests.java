@@ -55,13 +55,6 @@ public final class PromiseTests {
         check.end("PromiseTests");
     }
 
-    /** A centre whose account 0 has a draft with so many parts. */
-    private static MessageCentre withParts(int parts) {
-        MessageCentre x = new MessageCentre();
-        check.equal("wide parts", parts, x.draft(0, Math.min(67 * parts, 500), 0, true));
-        return x;
-    }
-
     private static void constants() {
         check.equal("NONE", -1, MessageCentre.NONE);
         check.equal("WAITING", 0, MessageCentre.WAITING);
@@ -371,7 +364,7 @@ public final class PromiseTests {
     }
 
     private static void whatCameInPartIsNotReplaced() {
-        MessageCentre x = withParts(3);
+        MessageCentre x = Given.parts(3);
         x.setOptions(0, 1, MessageCentre.NONE, true);
         x.submit(0, 0, 1, 500);
         x.pass(1);
@@ -388,7 +381,7 @@ public final class PromiseTests {
     }
 
     private static void promise06Delete() {
-        MessageCentre x = withParts(3);
+        MessageCentre x = Given.parts(3);
         x.submit(0, 0, 0, 500);
         x.submit(0, 1, 0, 500);
         check.equal("6 no part yet", 0, x.delete(1));
@@ -414,24 +407,8 @@ public final class PromiseTests {
         check.equal("7 ended ones are there", 2, x.messages());
     }
 
-    /** Messages 0 to 4, each in the state of its number. */
-    private static MessageCentre withAllStates() {
-        MessageCentre x = new MessageCentre();
-        x.setMode(0, MessageCentre.BUSY);
-        x.setMode(2, MessageCentre.ABSENT);
-        x.setMode(4, MessageCentre.BARRED);
-        x.submit(0, 0, 0, 500);
-        x.submit(0, 1, 0, 500);
-        x.submit(0, 2, 0, 8);
-        x.submit(0, 3, 0, 500);
-        x.delete(3);
-        x.submit(0, 4, 0, 500);
-        x.pass(8);
-        return x;
-    }
-
     private static void promise08State() {
-        MessageCentre x = withAllStates();
+        MessageCentre x = Given.allStates();
         for (int message = 0; message < 5; message++) {
             check.equal("8 state", message, x.state(message));
         }
@@ -441,7 +418,7 @@ public final class PromiseTests {
     }
 
     private static void promise09StateByLog() {
-        MessageCentre x = withAllStates();
+        MessageCentre x = Given.allStates();
         for (int message = 0; message < 5; message++) {
             check.equal("9 state by log", message, x.stateByLog(message));
         }
@@ -452,7 +429,7 @@ public final class PromiseTests {
     }
 
     private static void longLog() {
-        MessageCentre x = withParts(3);
+        MessageCentre x = Given.parts(3);
         x.submit(0, 0, 0, 500);
         x.pass(1);
         check.equal("9 came in part", MessageCentre.WAITING, x.stateByLog(0));
@@ -480,7 +457,7 @@ public final class PromiseTests {
     }
 
     private static void promise10Parts() {
-        MessageCentre x = withParts(8);
+        MessageCentre x = Given.parts(8);
         x.submit(0, 0, 0, 500);
         x.draft(0, 1, 0, false);
         x.submit(0, 0, 0, 500);
@@ -532,7 +509,7 @@ public final class PromiseTests {
     }
 
     private static void promise12Delivered() {
-        MessageCentre x = withParts(3);
+        MessageCentre x = Given.parts(3);
         x.submit(0, 0, 0, 500);
         for (int parts = 0; parts <= 3; parts++) {
             check.equal("12 parts", parts, x.delivered(0));
@@ -545,7 +522,7 @@ public final class PromiseTests {
     }
 
     private static void promise13Attempts() {
-        MessageCentre x = withParts(2);
+        MessageCentre x = Given.parts(2);
         x.submit(0, 0, 0, 500);
         check.equal("13 none yet", 0, x.attempts(0));
         x.setMode(0, MessageCentre.BUSY);
@@ -565,7 +542,7 @@ public final class PromiseTests {
     }
 
     private static void promise14Due() {
-        MessageCentre x = withParts(2);
+        MessageCentre x = Given.parts(2);
         x.pass(4);
         x.submit(0, 0, 0, 500);
         check.equal("14 when submitted", 4, x.due(0));
@@ -609,7 +586,7 @@ public final class PromiseTests {
     }
 
     private static void promise14FailuresForgotten() {
-        MessageCentre x = withParts(3);
+        MessageCentre x = Given.parts(3);
         x.submit(0, 0, 0, 500);
         x.setMode(0, MessageCentre.BUSY);
         x.pass(3);
@@ -706,7 +683,7 @@ public final class PromiseTests {
     }
 
     private static void promise16SetRoom() {
-        MessageCentre x = withParts(4);
+        MessageCentre x = Given.parts(4);
         check.equal("16 at first", 10, x.setRoom(0, 50));
         check.equal("16 then", 50, x.setRoom(0, 0));
         check.equal("16 none", 0, x.setRoom(0, 4));
@@ -727,7 +704,7 @@ public final class PromiseTests {
     }
 
     private static void promise16SetRoomWakes() {
-        MessageCentre x = withParts(4);
+        MessageCentre x = Given.parts(4);
         x.setRoom(0, 2);
         x.submit(0, 0, 0, 500);
         x.pass(3);
@@ -746,7 +723,7 @@ public final class PromiseTests {
     }
 
     private static void promise17Read() {
-        MessageCentre x = withParts(5);
+        MessageCentre x = Given.parts(5);
         x.submit(0, 0, 0, 500);
         x.pass(5);
         check.equal("17 one read", 4, x.read(0, 1));
@@ -765,7 +742,7 @@ public final class PromiseTests {
     }
 
     private static void promise17ReadWakes() {
-        MessageCentre x = withParts(5);
+        MessageCentre x = Given.parts(5);
         x.setRoom(0, 3);
         x.submit(0, 0, 0, 500);
         x.pass(3);
@@ -799,7 +776,7 @@ public final class PromiseTests {
     }
 
     private static void promise18InRoom() {
-        MessageCentre x = withParts(3);
+        MessageCentre x = Given.parts(3);
         x.submit(0, 2, 0, 500);
         for (int parts = 0; parts < 4; parts++) {
             check.equal("18 parts", parts, x.inRoom(2));
@@ -813,7 +790,7 @@ public final class PromiseTests {
     }
 
     private static void fullAtTen() {
-        MessageCentre x = withParts(8);
+        MessageCentre x = Given.parts(8);
         x.submit(0, 0, 0, 500);
         x.submit(0, 0, 0, 500);
         check.equal("18 ten parts have room at first", 10, x.pass(20));
@@ -890,7 +867,7 @@ public final class PromiseTests {
     }
 
     private static void promise22PassOrders() {
-        MessageCentre x = withParts(2);
+        MessageCentre x = Given.parts(2);
         x.submit(0, 0, 0, 500);
         x.submit(0, 0, 3, 500);
         x.submit(0, 0, 3, 500);
@@ -1030,7 +1007,7 @@ public final class PromiseTests {
     }
 
     private static void promise26Share() {
-        MessageCentre x = withParts(2);
+        MessageCentre x = Given.parts(2);
         x.submit(0, 0, 0, 500);
         check.equal("26 all wait", 0.0f, x.share());
         x.pass(1);
