@@ -9,11 +9,16 @@ final class Check {
 
     private int right = 0;
     private int wrong = 0;
-    private String sentence = "";
+    private String subject = "";
+
+    /** Names what the checks from here on are about. */
+    void about(String name) {
+        subject = name + ": ";
+    }
 
     /** Names the sentence of the document that the checks from here on are about. */
     void sentence(String words) {
-        sentence = "\"" + words + "\" ";
+        about("\"" + words + "\"");
     }
 
     void equal(String what, long want, long got) {
@@ -26,7 +31,7 @@ final class Check {
 
     private void tellWrong(String told) {
         wrong++;
-        System.out.println(sentence + told);
+        System.out.println(subject + told);
     }
 
     void equal(String what, float want, float got) {

@@ -632,7 +632,7 @@ public final class TickEdges {
         int[] busy = delays(Given.mode(MessageCentre.BUSY), 32);
         MessageCentre absent = Given.mode(MessageCentre.ABSENT);
         MessageCentre full = Given.room(0);
-        for (int n = 1; n <= 160; n++) {
+        for (int n = 1; n <= 120; n++) {
             int times = n < 4 ? 1 << n - 1 : 8;
             if (n <= busy.length) {
                 check.equal("BUSY, failure " + n, 2 * times, busy[n - 1]);

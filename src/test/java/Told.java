@@ -20,12 +20,13 @@ final class Told {
     }
 
     private static void appendMessage(StringBuilder text, MessageCentre x, int message) {
-        text.append(", ").append(x.state(message)).append(' ').append(x.stateByLog(message));
+        int state = x.state(message);
+        text.append(", ").append(state).append(' ').append(x.stateByLog(message));
         text.append(' ').append(x.delivered(message)).append(' ').append(x.attempts(message));
         for (int letters : Given.letters(x, message)) {
             text.append(' ').append(letters);
         }
-        if (x.state(message) == MessageCentre.WAITING) {
+        if (state == MessageCentre.WAITING) {
             text.append(' ').append(x.due(message));
         }
     }
